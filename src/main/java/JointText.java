@@ -366,8 +366,8 @@ public final class JointText {
         private static final int SEVEN_BITS = 127;
 
         static int of(int kind, int position, int character, int site) {
-            return kind | site << SITE_SHIFT | character << CHARACTER_SHIFT
-                    | position << POSITION_SHIFT;
+            return kind | (site << SITE_SHIFT) | (character << CHARACTER_SHIFT)
+                    | (position << POSITION_SHIFT);
         }
 
         static int nothingOf(int site) {
@@ -379,11 +379,11 @@ public final class JointText {
         }
 
         static int siteOf(int op) {
-            return op >> SITE_SHIFT & TWO_BITS;
+            return (op >> SITE_SHIFT) & TWO_BITS;
         }
 
         static int characterOf(int op) {
-            return op >> CHARACTER_SHIFT & SEVEN_BITS;
+            return (op >> CHARACTER_SHIFT) & SEVEN_BITS;
         }
 
         static int positionOf(int op) {
