@@ -1,7 +1,7 @@
 /** Promises 12 to 17: deliver, lose, repeat, harm, tick, connect. */
 public final class LineTest {
     private static void deliverAnswers() {
-        JointText x = new JointText();
+        CountedText x = new CountedText();
         Check.same("none", x.deliver(0), -1);
         Check.same("none at -1", x.deliver(-1), -1);
         x.insert(0, 0, 'a');
@@ -20,7 +20,7 @@ public final class LineTest {
     /** Two clients insert at one place: the lower site stands first, whoever is first in the order. */
     private static void insertsAtOnePlace() {
         for (int first = 0; first <= 1; first++) {
-            JointText x = new JointText();
+            CountedText x = new CountedText();
             x.insert(0, 0, 'a');
             x.insert(1, 0, 'b');
             x.deliver(first);
@@ -30,7 +30,7 @@ public final class LineTest {
     }
 
     private static String joined(int firstToDeliver, String start, int[] a, int[] b) {
-        JointText x = new JointText();
+        CountedText x = new CountedText();
         Check.type(x, 2, start);
         edit(x, 0, a);
         edit(x, 1, b);
@@ -41,7 +41,7 @@ public final class LineTest {
     }
 
     /** An edit: a position, and a character or 0 to erase. */
-    private static void edit(JointText x, int client, int[] edit) {
+    private static void edit(CountedText x, int client, int[] edit) {
         if (edit[1] == 0) {
             x.erase(client, edit[0]);
         } else {
@@ -73,7 +73,7 @@ public final class LineTest {
 
     /** A client's second pending edit is moved over the op as it came to that edit. */
     private static void newsMovesAllPending() {
-        JointText x = new JointText();
+        CountedText x = new CountedText();
         Check.type(x, 2, "mn");
         x.connect(0, false);
         x.insert(0, 0, 'a');
@@ -93,7 +93,7 @@ public final class LineTest {
     }
 
     private static void newsOutOfPlace() {
-        JointText x = new JointText();
+        CountedText x = new CountedText();
         x.insert(0, 0, 'a');
         x.insert(1, 0, 'b');
         x.deliver(0);
@@ -114,7 +114,7 @@ public final class LineTest {
 
     /** An EDIT that comes twice is done once; the second is as an ASK. */
     private static void editTwice() {
-        JointText x = new JointText();
+        CountedText x = new CountedText();
         x.insert(0, 0, 'a');
         x.repeat(0);
         x.deliver(0);
@@ -128,7 +128,7 @@ public final class LineTest {
     }
 
     private static void askGetsAllFromItsRevision() {
-        JointText x = new JointText();
+        CountedText x = new CountedText();
         Check.type(x, 0, "a");
         x.connect(2, false);
         Check.type(x, 0, "bc");
@@ -143,7 +143,7 @@ public final class LineTest {
     }
 
     private static void nextPendingIsSent() {
-        JointText x = new JointText();
+        CountedText x = new CountedText();
         x.insert(1, 0, 'a');
         x.insert(1, 1, 'b');
         x.deliver(0);
@@ -154,7 +154,7 @@ public final class LineTest {
     }
 
     private static void loses() {
-        JointText x = new JointText();
+        CountedText x = new CountedText();
         Check.same("none", x.lose(0), false);
         x.tick();
         Check.same("none at 3", x.lose(3), false);
@@ -173,7 +173,7 @@ public final class LineTest {
     }
 
     private static void repeats() {
-        JointText x = new JointText();
+        CountedText x = new CountedText();
         Check.same("none", x.repeat(0), false);
         x.insert(1, 0, 'a');
         x.tick();
@@ -200,7 +200,7 @@ public final class LineTest {
     }
 
     private static void harms() {
-        JointText x = new JointText();
+        CountedText x = new CountedText();
         Check.same("none", x.harm(0, 1), false);
         x.insert(0, 0, 'a');
         Check.same("none at 1", x.harm(1, 1), false);
@@ -228,7 +228,7 @@ public final class LineTest {
     }
 
     private static void damagedNews() {
-        JointText x = new JointText();
+        CountedText x = new CountedText();
         x.insert(0, 0, 'a');
         x.deliver(0);
         x.harm(1, 1);
@@ -241,7 +241,7 @@ public final class LineTest {
     }
 
     private static void ticks() {
-        JointText x = new JointText();
+        CountedText x = new CountedText();
         x.connect(1, false);
         x.insert(2, 0, 'a');
         x.insert(2, 1, 'b');
@@ -256,7 +256,7 @@ public final class LineTest {
 
     /** An EDIT that is sent again is the edit as it is then, with the revision of then. */
     private static void tickSendsEditAsItIs() {
-        JointText x = new JointText();
+        CountedText x = new CountedText();
         x.insert(2, 0, 'b');
         Check.loseAll(x);
         x.insert(0, 0, 'a');
@@ -268,7 +268,7 @@ public final class LineTest {
     }
 
     private static void connects() {
-        JointText x = new JointText();
+        CountedText x = new CountedText();
         Check.same("no client 3", x.connect(3, false), false);
         Check.same("no client -1", x.connect(-1, true), false);
         Check.same("on already", x.connect(0, true), false);
@@ -294,7 +294,7 @@ public final class LineTest {
     }
 
     private static void offClientLosesOnlyWhatComes() {
-        JointText x = new JointText();
+        CountedText x = new CountedText();
         x.insert(0, 0, 'a');
         x.connect(0, false);
         Check.same("its EDIT goes on", x.deliver(0), 0);

@@ -360,24 +360,72 @@ final class Model {
         return true;
     }
 
-    /** The same as Check.all, of the model. */
-    String all() {
-        StringBuilder seen = new StringBuilder();
+    private static boolean noSide(int side) {
+        return no(side) && side != 3;
+    }
+
+    private StringBuilder textOf(int side) {
+        return side == 3 ? text : clients[side].text;
+    }
+
+    int length(int side) {
+        return noSide(side) || side == 3 && !up ? -1 : textOf(side).length();
+    }
+
+    int character(int side, int p) {
+        if (noSide(side)) {
+            throw new IllegalArgumentException();
+        }
+        if (side == 3 && !up) {
+            throw new IllegalStateException();
+        }
+        if (p < 0 || p >= textOf(side).length()) {
+            throw new IndexOutOfBoundsException();
+        }
+        return textOf(side).charAt(p);
+    }
+
+    int revision(int side) {
+        if (noSide(side)) {
+            return -1;
+        }
+        return side == 3 ? journal.size() : clients[side].revision;
+    }
+
+    int pending(int client) {
+        return no(client) ? -1 : clients[client].pending.size();
+    }
+
+    private static int part(int what, int... parts) {
+        return what < 0 || what >= parts.length ? -1 : parts[what];
+    }
+
+    int op(int i, int what) {
+        if (i < 0 || i >= journal.size()) {
+            return -1;
+        }
+        Entry e = journal.get(i);
+        return part(what, e.op().kind(), e.op().position(), e.op().character(), e.author(), e.number());
+    }
+
+    int waiting() {
+        return line.size();
+    }
+
+    int message(int k, int what) {
+        if (k < 0 || k >= line.size()) {
+            return -1;
+        }
+        Message m = line.get(k);
+        return part(what, m.kind, m.client, m.revision, m.number, m.whole() ? 1 : 0);
+    }
+
+    /** All clients know the whole history and have nothing pending. */
+    boolean isTogether() {
+        boolean together = up && line.isEmpty();
         for (Client c : clients) {
-            seen.append('[').append(c.text).append(' ').append(c.revision).append(' ')
-                    .append(c.pending.size()).append(']');
+            together &= c.pending.isEmpty() && c.revision == history.size();
         }
-        seen.append('[').append(up ? text : "none").append(' ').append(journal.size()).append(" -1]");
-        for (Entry e : journal) {
-            seen.append('(').append(e.op().kind()).append(' ').append(e.op().position()).append(' ')
-                    .append(e.op().character()).append(' ').append(e.author()).append(' ')
-                    .append(e.number()).append(')');
-        }
-        for (Message m : line) {
-            seen.append('<').append(m.kind).append(' ').append(m.client).append(' ')
-                    .append(m.revision).append(' ').append(m.number).append(' ')
-                    .append(m.whole() ? 1 : 0).append('>');
-        }
-        return seen.toString();
+        return together;
     }
 }

@@ -1,15 +1,17 @@
 import java.util.concurrent.Callable;
 
 /**
- * Long runs of mixed calls, the same ones each time: the program and the model answer alike and look
- * alike after each call, and once the line is good again all texts come together.
+ * Long runs of mixed calls, the same ones each time: the program and the model answer alike, and once
+ * the line is good again all texts come together. No object is used for more than its 512 calls.
  */
 public final class ModelTest {
-    private static final int RUNS = 600;
-    private static final int CALLS = 480;
+    private static final int RUNS = 4000;
+    private static final int CALLS_BEFORE_COMING_TOGETHER = 110;
+    // Enough to read four texts.
+    private static final int CALLS_TO_READ = 200;
 
     private long state;
-    private final JointText x = new JointText();
+    private final CountedText x = new CountedText();
     private final Model model = new Model();
 
     private ModelTest(int seed) {
@@ -22,32 +24,23 @@ public final class ModelTest {
         return (int) ((state >>> 33) % bound);
     }
 
-    private static String answer(Callable<?> call) {
-        try {
-            return String.valueOf(call.call());
-        } catch (Exception e) {
-            return e.getClass().getSimpleName();
-        }
-    }
-
     /** Mostly one of the clients, now and then none. */
     private int client() {
         return next(40) == 0 ? next(7) - 3 : next(3);
     }
 
-    private int position(int client) {
-        int length = client >= 0 && client < 3 ? x.length(client) : 1;
-        return next(length + 3) - 1;
+    /** Mostly within the text, now and then just outside. */
+    private int position(int side) {
+        return next(Math.max(model.length(side), 0) + 3) - 1;
     }
 
     /** Mostly the first message, so that much gets through; else any, or none. */
     private int place() {
-        return next(3) > 0 ? 0 : next(x.waiting() + 2) - 1;
+        return next(3) > 0 ? 0 : next(model.waiting() + 2) - 1;
     }
 
     private void call(String name, Callable<?> program, Callable<?> due) {
-        Check.same(name, answer(program), answer(due));
-        Check.same("after " + name, Check.all(x), model.all());
+        Check.same(name, Check.answer(program), Check.answer(due));
     }
 
     private void write() {
@@ -61,6 +54,23 @@ public final class ModelTest {
             call("erase", () -> x.erase(c, p), () -> model.erase(c, p));
         } else {
             call("undo", () -> x.undo(c), () -> model.undo(c));
+        }
+    }
+
+    private void look() {
+        int side = next(40) == 0 ? next(9) - 3 : next(4);
+        int p = position(side);
+        int k = next(model.waiting() + 2) - 1;
+        int i = next(model.revision(3) + 2) - 1;
+        int what = next(7) - 1;
+        switch (next(12)) {
+            case 0 -> call("length", () -> x.length(side), () -> model.length(side));
+            case 1 -> call("revision", () -> x.revision(side), () -> model.revision(side));
+            case 2 -> call("pending", () -> x.pending(side), () -> model.pending(side));
+            case 3 -> call("waiting", x::waiting, model::waiting);
+            case 4, 5 -> call("op", () -> x.op(i, what), () -> model.op(i, what));
+            case 6, 7 -> call("message", () -> x.message(k, what), () -> model.message(k, what));
+            default -> call("character", () -> x.character(side, p), () -> model.character(side, p));
         }
     }
 
@@ -84,7 +94,6 @@ public final class ModelTest {
     private void tick() {
         x.tick();
         model.tick();
-        Check.same("after tick", Check.all(x), model.all());
     }
 
     private void deliver(int k) {
@@ -92,12 +101,14 @@ public final class ModelTest {
     }
 
     private void mixed(int trouble) {
-        int kind = next(100);
+        int kind = next(120);
         if (kind < 22) {
             write();
-        } else if (kind < 22 + trouble) {
+        } else if (kind < 42) {
+            look();
+        } else if (kind < 42 + trouble) {
             disturb();
-        } else if (kind < 28 + trouble) {
+        } else if (kind < 48 + trouble) {
             tick();
         } else {
             deliver(place());
@@ -105,23 +116,28 @@ public final class ModelTest {
     }
 
     /** All go on, nothing is lost any more, and enough is sent again. */
-    private void comeTogether() {
-        x.restart();
-        x.trip(0);
+    private boolean comesTogether() {
+        call("restart", x::restart, model::restart);
+        call("trip", () -> x.trip(0), () -> model.trip(0));
         for (int c = 0; c < 3; c++) {
-            x.connect(c, true);
+            int of = c;
+            call("connect", () -> x.connect(of, true), () -> model.connect(of, true));
         }
-        for (int round = 0; round < 60; round++) {
-            Check.drain(x);
-            x.tick();
-        }
-        Check.drain(x);
-        for (int c = 0; c < 3; c++) {
-            // With a full history, edits may stay pending for ever and texts apart.
-            if (x.revision(3) < 60) {
-                Check.same("pending at the end", x.pending(c), 0);
-                Check.same("text at the end", Check.text(x, c), Check.text(x, 3));
+        while (!model.isTogether() && x.callsLeft() > CALLS_TO_READ) {
+            if (model.waiting() == 0) {
+                tick();
+            } else {
+                deliver(0);
             }
+        }
+        return model.isTogether();
+    }
+
+    private void textsAreAlike() {
+        String due = Check.text(x, Check.SERVER);
+        Check.same("text of the server", due, model.text.toString());
+        for (int c = 0; c < 3; c++) {
+            Check.same("text of " + c, Check.text(x, c), due);
         }
     }
 
@@ -129,13 +145,17 @@ public final class ModelTest {
         int together = 0;
         for (int run = 0; run < RUNS; run++) {
             ModelTest test = new ModelTest(run);
-            for (int i = 0; i < (run % 2 == 0 ? CALLS : CALLS / 4); i++) {
+            boolean toEnd = run % 2 == 0;
+            int keep = toEnd ? 0 : CountedText.MOST_CALLS - CALLS_BEFORE_COMING_TOGETHER;
+            while (test.x.callsLeft() > keep) {
                 test.mixed(run % 3 * 8);
             }
-            test.comeTogether();
-            together += test.x.revision(3) < 60 ? 1 : 0;
+            if (!toEnd && test.comesTogether()) {
+                test.textsAreAlike();
+                together++;
+            }
         }
-        Check.same("enough runs end before the history is full", together > RUNS / 4, true);
+        Check.same("most that could come together", together > RUNS / 3, true);
         Check.finish();
     }
 }

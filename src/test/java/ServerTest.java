@@ -1,20 +1,7 @@
-/** Promises 18 to 20: trip, crash, restart; and what the server does when its history is full. */
+/** Promises 18 to 20: trip, crash, restart. */
 public final class ServerTest {
-    private static void tripRefuses() {
-        JointText x = new JointText();
-        Check.same("how -1", x.trip(-1), false);
-        Check.same("how 3", x.trip(3), false);
-        for (int how = 0; how <= 2; how++) {
-            Check.same("how " + how, x.trip(how), true);
-        }
-        Check.same("a refused trip", x.trip(9), false);
-        x.insert(0, 0, 'a');
-        x.deliver(0);
-        Check.same("leaves the trip that was set", x.length(3), -1);
-    }
-
     private static void tripBefore() {
-        JointText x = new JointText();
+        CountedText x = new CountedText();
         Check.type(x, 0, "a");
         x.trip(1);
         x.insert(1, 0, 'b');
@@ -31,7 +18,7 @@ public final class ServerTest {
     }
 
     private static void tripWhenWritten() {
-        JointText x = new JointText();
+        CountedText x = new CountedText();
         Check.type(x, 0, "a");
         x.trip(2);
         x.insert(1, 1, 'b');
@@ -50,7 +37,7 @@ public final class ServerTest {
     }
 
     private static void tripWaitsForWriting() {
-        JointText x = new JointText();
+        CountedText x = new CountedText();
         x.insert(0, 0, 'a');
         x.repeat(0);
         x.deliver(0);
@@ -69,7 +56,7 @@ public final class ServerTest {
     }
 
     private static void restartForgetsTrip() {
-        JointText x = new JointText();
+        CountedText x = new CountedText();
         x.trip(1);
         x.crash();
         x.restart();
@@ -83,7 +70,7 @@ public final class ServerTest {
     }
 
     private static void crashes() {
-        JointText x = new JointText();
+        CountedText x = new CountedText();
         Check.type(x, 0, "ab");
         x.insert(1, 0, 'c');
         x.tick();
@@ -98,7 +85,7 @@ public final class ServerTest {
         Check.same("and send", x.waiting(), 3);
     }
 
-    private static String waiting(JointText x) {
+    private static String waiting(CountedText x) {
         StringBuilder row = new StringBuilder();
         for (int k = 0; k < x.waiting(); k++) {
             row.append(Check.message(x, k)).append(", ");
@@ -107,7 +94,7 @@ public final class ServerTest {
     }
 
     private static void newsGoOnWhileDown() {
-        JointText x = new JointText();
+        CountedText x = new CountedText();
         x.insert(0, 0, 'a');
         x.deliver(0);
         x.crash();
@@ -116,7 +103,7 @@ public final class ServerTest {
     }
 
     private static void restarts() {
-        JointText x = new JointText();
+        CountedText x = new CountedText();
         Check.same("up already", x.restart(), false);
         Check.type(x, 0, "abc");
         x.erase(1, 0);
@@ -136,33 +123,7 @@ public final class ServerTest {
         Check.texts("a second time", x, "bdce");
     }
 
-    private static void fullHistory() {
-        JointText x = new JointText();
-        for (int i = 0; i < 30; i++) {
-            Check.type(x, 0, "a");
-            x.erase(0, 0);
-            if (i < 29) {
-                Check.drain(x);
-            }
-        }
-        x.repeat(0);
-        x.deliver(0);
-        Check.same("60 ops", x.revision(3), 60);
-        x.trip(1);
-        Check.same("an old EDIT", x.deliver(0), 0);
-        Check.same("is as an ASK", Check.message(x, 3), "2 0 59 59 1");
-        Check.drain(x);
-        x.insert(1, 0, 'b');
-        Check.same("a new EDIT", x.deliver(0), 0);
-        Check.same("brings nothing", x.waiting() + " " + x.revision(3), "0 60");
-        Check.same("and does not trip", x.length(3), 0);
-        Check.same("no op 60", x.op(60, 0), -1);
-        x.tick();
-        Check.same("still pending", Check.message(x, 1), "0 1 60 0 1");
-    }
-
     public static void main(String[] args) {
-        tripRefuses();
         tripBefore();
         tripWhenWritten();
         tripWaitsForWriting();
@@ -170,7 +131,6 @@ public final class ServerTest {
         crashes();
         newsGoOnWhileDown();
         restarts();
-        fullHistory();
         Check.finish();
     }
 }

@@ -1,11 +1,7 @@
 /** Promises 5 to 11: length, character, revision, pending, op, waiting, message. */
 public final class ViewTest {
-    private static final Class<IllegalArgumentException> ARGUMENT = IllegalArgumentException.class;
-    private static final Class<IndexOutOfBoundsException> INDEX = IndexOutOfBoundsException.class;
-    private static final Class<IllegalStateException> STATE = IllegalStateException.class;
-
     private static void lengths() {
-        JointText x = new JointText();
+        CountedText x = new CountedText();
         Check.type(x, 0, "ab");
         x.insert(1, 0, 'c');
         Check.same("length of 0", x.length(0), 2);
@@ -21,27 +17,27 @@ public final class ViewTest {
     }
 
     private static void characters() {
-        JointText x = new JointText();
+        CountedText x = new CountedText();
         Check.type(x, 0, "ab");
         x.insert(1, 1, 'c');
         Check.same("of 0", x.character(0, 1), (int) 'b');
         Check.same("of 1", x.character(1, 1), (int) 'c');
         Check.same("of 1, the last", x.character(1, 2), (int) 'b');
         Check.same("of the server", x.character(3, 1), (int) 'b');
-        Check.fails("no side 4", ARGUMENT, () -> x.character(4, 0));
-        Check.fails("no side -1", ARGUMENT, () -> x.character(-1, 9));
-        Check.fails("p -1", INDEX, () -> x.character(0, -1));
-        Check.fails("p behind the last", INDEX, () -> x.character(0, 2));
-        Check.fails("p far off", INDEX, () -> x.character(3, Integer.MIN_VALUE));
+        Check.fails("no side 4", Check.ARGUMENT, () -> x.character(4, 0));
+        Check.fails("no side -1", Check.ARGUMENT, () -> x.character(-1, 9));
+        Check.fails("p -1", Check.INDEX, () -> x.character(0, -1));
+        Check.fails("p behind the last", Check.INDEX, () -> x.character(0, 2));
+        Check.fails("p far off", Check.INDEX, () -> x.character(3, Integer.MIN_VALUE));
         x.crash();
-        Check.fails("down", STATE, () -> x.character(3, 0));
-        Check.fails("down before position", STATE, () -> x.character(3, 99));
-        Check.fails("side before down", ARGUMENT, () -> x.character(4, 99));
+        Check.fails("down", Check.STATE, () -> x.character(3, 0));
+        Check.fails("down before position", Check.STATE, () -> x.character(3, 99));
+        Check.fails("side before down", Check.ARGUMENT, () -> x.character(4, 99));
         Check.same("client with server down", x.character(0, 0), (int) 'a');
     }
 
     private static void revisions() {
-        JointText x = new JointText();
+        CountedText x = new CountedText();
         Check.type(x, 0, "ab");
         x.connect(2, false);
         Check.type(x, 0, "c");
@@ -56,7 +52,7 @@ public final class ViewTest {
     }
 
     private static void pendings() {
-        JointText x = new JointText();
+        CountedText x = new CountedText();
         x.insert(0, 0, 'a');
         x.insert(0, 0, 'b');
         x.insert(2, 0, 'c');
@@ -72,7 +68,7 @@ public final class ViewTest {
     }
 
     private static void ops() {
-        JointText x = new JointText();
+        CountedText x = new CountedText();
         Check.type(x, 0, "abc");
         x.erase(1, 2);
         x.erase(2, 2);
@@ -89,11 +85,11 @@ public final class ViewTest {
         Check.same("no what -1", x.op(0, -1), -1);
         x.crash();
         Check.same("of the journal", Check.op(x, 3), "2 2 0 1 0");
-        Check.same("no op in a new one", new JointText().op(0, 0), -1);
+        Check.same("no op in a new one", new CountedText().op(0, 0), -1);
     }
 
     private static void messages() {
-        JointText x = new JointText();
+        CountedText x = new CountedText();
         Check.type(x, 1, "ab");
         x.insert(1, 0, 'c');
         x.tick();
@@ -116,23 +112,6 @@ public final class ViewTest {
         Check.same("no message 0", Check.message(x, 0), "-1 -1 -1 -1 -1");
     }
 
-    /** At most 30 wait; what is sent then is lost. */
-    private static void thirtyWait() {
-        JointText x = new JointText();
-        for (int i = 1; i <= 9; i++) {
-            x.tick();
-            Check.same("waiting", x.waiting(), 3 * i);
-        }
-        x.lose(0);
-        x.tick();
-        x.tick();
-        Check.same("30 wait", x.waiting(), 30);
-        Check.same("the last is that of client 0", Check.message(x, 29), "1 0 0 0 1");
-        x.insert(1, 0, 'a');
-        Check.same("the EDIT is lost", x.waiting(), 30);
-        Check.same("the edit is made", x.pending(1), 1);
-    }
-
     public static void main(String[] args) {
         lengths();
         characters();
@@ -140,7 +119,6 @@ public final class ViewTest {
         pendings();
         ops();
         messages();
-        thirtyWait();
         Check.finish();
     }
 }
