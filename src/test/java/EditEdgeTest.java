@@ -162,21 +162,30 @@ public final class EditEdgeTest {
         less.changes("insert into 59 of others", 2, x -> x.insert(0, 59, 'z'));
     }
 
-    /** The longest text that there can be: 60 ops of others, and 8 edits that are pending. */
-    private static void longestText() {
-        Scene longest = new Scene(x -> {
-            for (int i = 0; i < 8; i++) {
+    /** Client 0 has that many edits pending when 60 ops of client 1 come. */
+    private static Scene longText(int pending) {
+        return new Scene(x -> {
+            for (int i = 0; i < pending; i++) {
                 x.insert(0, i, '0' + i);
             }
             x.lose(0);
             Check.fill(x, 1, 0, 60);
         });
+    }
+
+    /** The longest text that there can be: 60 ops of others, and 8 edits that are pending. */
+    private static void longestText() {
+        Scene longest = longText(8);
         longest.answers("text", "01234567" + Check.filled(60), x -> Check.text(x, 0));
         longest.refuses("insert into 68", Check.STATE, x -> x.insert(0, 68, 'z'));
         longest.refuses("insert behind 68", Check.INDEX, x -> x.insert(0, 69, 'z'));
         longest.refuses("erase the last of 68", Check.STATE, x -> x.erase(0, 67));
         longest.refuses("erase behind 68", Check.INDEX, x -> x.erase(0, 68));
         longest.refuses("undo at 68", Check.STATE, x -> x.undo(0));
+        longText(7).changes("erase the first of 67", 8, x -> x.erase(0, 0));
+        longText(7).changes("erase the last of 67", 8, x -> x.erase(0, 66));
+        Scene erased = longText(7).then(x -> x.erase(0, 66));
+        erased.answers("66 then", "0123456" + Check.filled(59), x -> Check.text(x, 0));
     }
 
     /** "The first one that applies, in the order in which a method names them, is thrown." */
