@@ -2,13 +2,17 @@ import java.util.concurrent.Callable;
 
 /**
  * Long runs of mixed calls, the same ones each time: the program and the model answer alike, and once
- * the line is good again all texts come together. No object is used for more than its 512 calls.
+ * the line is good again all texts come together. Some runs write as fast as they can at first, since
+ * mixed calls alone never fill a history or a text. No object is used for more than its 512 calls.
  */
 public final class ModelTest {
     private static final int RUNS = 4000;
+    private static final int FILLING_RUNS = 1500;
     private static final int CALLS_BEFORE_COMING_TOGETHER = 110;
     // Enough to read four texts.
     private static final int CALLS_TO_READ = 200;
+    private static final int CALLS_ONCE_FILLED = 60;
+    private static final int FULL = 60;
 
     private long state;
     private final CountedText x = new CountedText();
@@ -43,13 +47,19 @@ public final class ModelTest {
         Check.same(name, Check.answer(program), Check.answer(due));
     }
 
-    private void write() {
+    private void insert() {
         int c = client();
         int p = position(c);
         int character = 30 + next(99);
+        call("insert", () -> x.insert(c, p, character), () -> model.insert(c, p, character));
+    }
+
+    private void write() {
+        int c = client();
+        int p = position(c);
         int kind = next(10);
         if (kind < 5) {
-            call("insert", () -> x.insert(c, p, character), () -> model.insert(c, p, character));
+            insert();
         } else if (kind < 8) {
             call("erase", () -> x.erase(c, p), () -> model.erase(c, p));
         } else {
@@ -115,6 +125,31 @@ public final class ModelTest {
         }
     }
 
+    /** One call of a run that fills the history soon; more and more waits if it writes eagerly. */
+    private void filling(int eagerness) {
+        if (!model.up) {
+            call("restart", x::restart, model::restart);
+        } else if (next(60) == 0) {
+            mixed(16);
+        } else if (next(100) < eagerness) {
+            insert();
+        } else if (next(30) == 0) {
+            write();
+        } else if (model.waiting() == 0) {
+            tick();
+        } else {
+            deliver(0);
+        }
+    }
+
+    private int longestText() {
+        int longest = 0;
+        for (int c = 0; c < 3; c++) {
+            longest = Math.max(longest, model.length(c));
+        }
+        return longest;
+    }
+
     /** All go on, nothing is lost any more, and enough is sent again. */
     private boolean comesTogether() {
         call("restart", x::restart, model::restart);
@@ -141,7 +176,7 @@ public final class ModelTest {
         }
     }
 
-    public static void main(String[] args) {
+    private static void mixedRuns() {
         int together = 0;
         for (int run = 0; run < RUNS; run++) {
             ModelTest test = new ModelTest(run);
@@ -156,6 +191,35 @@ public final class ModelTest {
             }
         }
         Check.same("most that could come together", together > RUNS / 3, true);
+    }
+
+    private static void fillingRuns() {
+        int fullHistories = 0;
+        int fullTexts = 0;
+        int textsBehindFull = 0;
+        for (int run = 0; run < FILLING_RUNS; run++) {
+            ModelTest test = new ModelTest(RUNS + run);
+            int longest = 0;
+            while (test.model.revision(3) < FULL && test.x.callsLeft() > CALLS_ONCE_FILLED) {
+                test.filling(20 + run % 4 * 5);
+                longest = Math.max(longest, test.longestText());
+            }
+            fullHistories += test.model.revision(3) == FULL ? 1 : 0;
+            while (test.x.callsLeft() > 0) {
+                test.mixed(run % 3 * 8);
+                longest = Math.max(longest, test.longestText());
+            }
+            fullTexts += longest >= FULL ? 1 : 0;
+            textsBehindFull += longest > FULL ? 1 : 0;
+        }
+        Check.same("many histories get full", fullHistories > FILLING_RUNS / 3, true);
+        Check.same("many texts get full", fullTexts > FILLING_RUNS / 3, true);
+        Check.same("many texts get longer still", textsBehindFull > FILLING_RUNS / 10, true);
+    }
+
+    public static void main(String[] args) {
+        mixedRuns();
+        fillingRuns();
         Check.finish();
     }
 }
